@@ -21,6 +21,7 @@ final class PromisesTest {
         promise03();
         promise04();
         promise04Losses();
+        promise04Ways();
         promise05();
         promise06();
         promise07();
@@ -43,6 +44,7 @@ final class PromisesTest {
         promise29And30();
         promise31();
         promise32And33();
+        promise33ManyChanges();
         promise34();
         promise35And36();
         promise37And38();
@@ -174,6 +176,33 @@ final class PromisesTest {
         same("4 ended ones take none", 0, x.setTrunk(0, 1, 0));
     }
 
+    private static void promise04Ways() {
+        anew();
+        x.setTrunk(0, 1, 1);
+        x.port(1, 2);
+        x.port(1, 3);
+        same("4 a way of three trunks", 0, x.call(0, 1));
+        same("4 not by a trunk between carriers of its way", 0, x.setTrunk(0, 3, 0));
+        same("4 nor by another one", 0, x.setTrunk(0, 2, 0) + x.setTrunk(3, 1, 0));
+        same("4 a call that shares a carrier only", 1, x.call(8, 2));
+        same("4 a call that has but one carrier", 2, x.call(6, 11));
+        same("4 the call that takes the line", 1, x.setTrunk(0, 1, 0));
+        same("4 the call that takes the line", 2, x.state(0));
+        same("4 not the others", 0, x.state(1) + x.state(2));
+        same("4 the later one of that trunk", 5, x.losses(1));
+        same("4 its other lines are free", 2, x.free(1, 2));
+        same("4 its other lines are free", 1, x.free(2, 3));
+        anew();
+        x.port(1, 2);
+        x.call(0, 1);
+        same("4 the second trunk of a way", 1, x.setTrunk(1, 2, 0));
+        x.call(3, 6);
+        x.call(0, 11);
+        same("4 not a higher one from elsewhere", 1, x.setTrunk(3, 1, 0));
+        same("4 the one that takes the line", 2, x.state(1));
+        same("4 the one from elsewhere", 0, x.state(2));
+    }
+
     private static void promise05() {
         anew();
         same("5 no debt", 0, x.port(0, 4));
@@ -288,7 +317,8 @@ final class PromisesTest {
     private static void promise10() {
         anew();
         for (int bad : NO_NUMBER) {
-            fails("10 number " + bad, INDEX, () -> x.call(bad, bad));
+            fails("10 number " + bad, INDEX, () -> x.call(bad, 0));
+            fails("10 both " + bad, INDEX, () -> x.call(bad, bad));
             fails("10 other " + bad, INDEX, () -> x.call(0, bad));
         }
         fails("10 one and the same", ARGUMENT, () -> x.call(4, 4));
@@ -560,7 +590,8 @@ final class PromisesTest {
         same("25 nobody pays", 0, x.losses(3));
         same("25 from where it is", 0, x.route(9, 1));
         for (int bad : NO_NUMBER) {
-            fails("25 number " + bad, INDEX, () -> x.route(bad, bad));
+            fails("25 number " + bad, INDEX, () -> x.route(bad, 0));
+            fails("25 both " + bad, INDEX, () -> x.route(bad, bad));
             fails("25 other " + bad, INDEX, () -> x.route(0, bad));
         }
         fails("25 one and the same", ARGUMENT, () -> x.route(3, 3));
@@ -652,6 +683,29 @@ final class PromisesTest {
             fails("32 call " + bad, INDEX, () -> x.charged(bad));
             fails("33 call " + bad, INDEX, () -> x.chargedAnew(bad));
         }
+    }
+
+    /** As many pieces as a call can have: each change of the 180 in a second of its own. */
+    private static void promise33ManyChanges() {
+        anew();
+        x.bond(0, 5000);
+        x.call(0, 1);
+        for (int i = 0; i < 60; i++) {
+            x.pass(1);
+            x.port(0, i % 2 == 0 ? 4 : 0);
+            x.pass(1);
+            x.sell(0, i % 2 == 0 ? 5 : 0);
+            x.pass(1);
+            x.setPrices(i % 2 == 0 ? 4 : 0, 9, 1 + i % 7);
+        }
+        x.pass(3);
+        same("33 many changes", x.charged(0), x.chargedAnew(0));
+        same("20 many changes", x.debt(0), x.debtAnew(0));
+        for (int i = 0; i < 5; i++) {
+            same("36 many changes " + i, x.earned(i), x.earnedAnew(i));
+            same("38 many changes " + i, x.spent(i), x.spentAnew(i));
+        }
+        same("38 many changes", x.spent(5), x.spentAnew(5));
     }
 
     private static void promise34() {
