@@ -5,7 +5,7 @@ import java.util.List;
  * The document once more, second by second and with nothing shared with the class: each second of
  * talk is charged by itself, and what is told anew is what was so charged.
  */
-final class Model {
+final class Model implements Exchange {
     record Port(int number, int carrier, int[] known) { }
 
     static final class Talk {
@@ -76,7 +76,7 @@ final class Model {
         }
     }
 
-    private static void state(boolean good) {
+    private static void lawful(boolean good) {
         if (!good) {
             throw new IllegalStateException();
         }
@@ -108,10 +108,11 @@ final class Model {
         return hour >= 8 && hour <= 19;
     }
 
-    int setPrices(int c, int dear, int cheap) {
+    @Override
+    public int setPrices(int c, int dear, int cheap) {
         carrier(c);
         argument(in(dear, 0, 9) && in(cheap, 0, 9));
-        state(prices < 60);
+        lawful(prices < 60);
         prices++;
         int before = price[c][0];
         price[c][0] = dear;
@@ -119,7 +120,8 @@ final class Model {
         return before;
     }
 
-    int setDelay(int c, int seconds) {
+    @Override
+    public int setDelay(int c, int seconds) {
         carrier(c);
         argument(in(seconds, 0, 5000));
         int before = delay[c];
@@ -127,7 +129,8 @@ final class Model {
         return before;
     }
 
-    int setTrunk(int c, int other, int count) {
+    @Override
+    public int setTrunk(int c, int other, int count) {
         carrier(c);
         carrier(other);
         argument(c != other && in(count, 0, 5));
@@ -157,11 +160,12 @@ final class Model {
         losses[from] += 5;
     }
 
-    int port(int n, int c) {
+    @Override
+    public int port(int n, int c) {
         number(n);
         carrier(c);
         int debt = debt(n);
-        state(at[n] != c && bond[n] >= debt && ports.size() < 60);
+        lawful(at[n] != c && bond[n] >= debt && ports.size() < 60);
         int[] known = new int[5];
         for (int k = 0; k < 5; k++) {
             known[k] = k == c || k == at[n] ? now : now + delay[k];
@@ -173,24 +177,27 @@ final class Model {
         return debt;
     }
 
-    int sell(int n, int p) {
+    @Override
+    public int sell(int n, int p) {
         number(n);
         person(p);
-        state(owner[n] != p && sales < 60);
+        lawful(owner[n] != p && sales < 60);
         sales++;
         int before = owner[n];
         owner[n] = p;
         return before;
     }
 
-    int bond(int n, int more) {
+    @Override
+    public int bond(int n, int more) {
         number(n);
         argument(in(more, 1, 5000));
-        state(bond[n] + more <= 5000);
+        lawful(bond[n] + more <= 5000);
         return bond[n] += more;
     }
 
-    int pay(int n, int more) {
+    @Override
+    public int pay(int n, int more) {
         number(n);
         argument(in(more, 1, debt(n)));
         return settle(n, more);
@@ -205,9 +212,10 @@ final class Model {
         return debt(n);
     }
 
-    int judge(int n) {
+    @Override
+    public int judge(int n) {
         number(n);
-        state(debt(n) > 0);
+        lawful(debt(n) > 0);
         int taken = Math.min(bond[n], debt(n));
         bond[n] -= taken;
         int left = settle(n, taken);
@@ -217,11 +225,12 @@ final class Model {
         return left;
     }
 
-    int call(int n, int other) {
+    @Override
+    public int call(int n, int other) {
         number(n);
         number(other);
         argument(n != other);
-        state(callOf(n) < 0 && callOf(other) < 0 && !barred[n] && talks.size() < 60);
+        lawful(callOf(n) < 0 && callOf(other) < 0 && !barred[n] && talks.size() < 60);
         List<Integer> way = new ArrayList<>();
         if (!find(n, other, way)) {
             lost++;
@@ -253,17 +262,19 @@ final class Model {
         return true;
     }
 
-    int hangUp(int call) {
+    @Override
+    public int hangUp(int call) {
         Talk t = talk(call);
-        state(t.state == 0);
+        lawful(t.state == 0);
         t.state = 1;
         t.end = now;
         return t.end - t.begin;
     }
 
-    int pass(int seconds) {
+    @Override
+    public int pass(int seconds) {
         argument(in(seconds, 1, 2000));
-        state(now + seconds <= 20000);
+        lawful(now + seconds <= 20000);
         int sum = 0;
         for (int i = 0; i < seconds; i++) {
             for (int n = 0; n < 12; n++) {
@@ -285,31 +296,37 @@ final class Model {
         return sum;
     }
 
-    int second() {
+    @Override
+    public int second() {
         return now;
     }
 
-    int isDear() {
-        return dear(now) ? 1 : 0;
+    @Override
+    public boolean isDear() {
+        return dear(now);
     }
 
-    int carrierOf(int n) {
+    @Override
+    public int carrierOf(int n) {
         number(n);
         return at[n];
     }
 
-    int carrierThen(int n, int second) {
+    @Override
+    public int carrierThen(int n, int second) {
         number(n);
         argument(in(second, 0, now));
         return second == now ? at[n] : places.get(n).get(second);
     }
 
-    int ownerOf(int n) {
+    @Override
+    public int ownerOf(int n) {
         number(n);
         return owner[n];
     }
 
-    int believed(int c, int n) {
+    @Override
+    public int believed(int c, int n) {
         carrier(c);
         number(n);
         int place = n % 5;
@@ -321,22 +338,31 @@ final class Model {
         return place;
     }
 
-    int debt(int n) {
+    @Override
+    public int debt(int n) {
         number(n);
         return owed[n] - paid[n];
     }
 
-    int bondOf(int n) {
+    @Override
+    public int debtAnew(int n) {
+        return debt(n);
+    }
+
+    @Override
+    public int bondOf(int n) {
         number(n);
         return bond[n];
     }
 
-    int isBarred(int n) {
+    @Override
+    public boolean isBarred(int n) {
         number(n);
-        return barred[n] ? 1 : 0;
+        return barred[n];
     }
 
-    int callOf(int n) {
+    @Override
+    public int callOf(int n) {
         number(n);
         for (int k = 0; k < talks.size(); k++) {
             Talk t = talks.get(k);
@@ -347,7 +373,8 @@ final class Model {
         return -1;
     }
 
-    int free(int c, int other) {
+    @Override
+    public int free(int c, int other) {
         carrier(c);
         carrier(other);
         if (c == other) {
@@ -360,7 +387,8 @@ final class Model {
         return left;
     }
 
-    int route(int n, int other) {
+    @Override
+    public int route(int n, int other) {
         number(n);
         number(other);
         argument(n != other);
@@ -368,53 +396,79 @@ final class Model {
         return find(n, other, way) ? way.size() - 1 : -1;
     }
 
-    int calls() {
+    @Override
+    public int calls() {
         return talks.size();
     }
 
-    int lost() {
+    @Override
+    public int lost() {
         return lost;
     }
 
-    int stateOf(int call) {
+    @Override
+    public int state(int call) {
         return talk(call).state;
     }
 
-    int trunks(int call) {
+    @Override
+    public int trunks(int call) {
         return talk(call).way.size() - 1;
     }
 
-    int carrierAt(int call, int place) {
+    @Override
+    public int carrierAt(int call, int place) {
         Talk t = talk(call);
         index(in(place, 0, t.way.size() - 1));
         return t.way.get(place);
     }
 
-    int seconds(int call) {
+    @Override
+    public int seconds(int call) {
         Talk t = talk(call);
         return (t.state == 0 ? now : t.end) - t.begin;
     }
 
-    int charged(int call) {
+    @Override
+    public int charged(int call) {
         return talk(call).charged;
     }
 
-    int coins(int c) {
+    @Override
+    public int chargedAnew(int call) {
+        return charged(call);
+    }
+
+    @Override
+    public int coins(int c) {
         carrier(c);
         return coins[c];
     }
 
-    int earned(int c) {
+    @Override
+    public int earned(int c) {
         carrier(c);
         return earned[c];
     }
 
-    int spent(int p) {
+    @Override
+    public int earnedAnew(int c) {
+        return earned(c);
+    }
+
+    @Override
+    public int spent(int p) {
         person(p);
         return spent[p];
     }
 
-    int losses(int c) {
+    @Override
+    public int spentAnew(int p) {
+        return spent(p);
+    }
+
+    @Override
+    public int losses(int c) {
         carrier(c);
         return losses[c];
     }

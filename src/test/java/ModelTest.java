@@ -20,7 +20,7 @@ final class ModelTest {
     private final int longest;
     private final int odd;
     private final Model model = new Model();
-    private final CarriedNumbers x = new CarriedNumbers();
+    private final Counted x = new Counted();
     private int made = 0;
 
     private ModelTest(Check check, int run) {
@@ -115,139 +115,19 @@ final class ModelTest {
         }
     }
 
-    private void ask(String name, int a, int b, int c) {
-        int first = a;
-        int second = b;
-        if (name.equals("pay") && a >= 0 && a < 12 && random.nextInt(100) >= odd) {
-            int debt = model.debt(a);
-            second = random.nextBoolean() ? debt : 1 + random.nextInt(debt + 1);
-        }
-        String what = "run " + run + ", call " + made + " " + name + "(" + first + ", " + second + ", " + c + ")";
-        String want = Check.outcome(new Due(name, first, second, c));
+    private void ask(String name, int a, int drawn, int c) {
+        int b = name.equals("pay") ? drawPaid(a, drawn) : drawn;
+        String what = "run " + run + ", call " + made + " " + name + "(" + a + ", " + b + ", " + c + ")";
+        String want = Check.outcome(() -> model.ask(name, a, b, c));
         made++;
-        check.same(what, want, Check.outcome(new Given(name, first, second, c)));
+        check.same(what, want, Check.outcome(() -> x.ask(name, a, b, c)));
     }
 
-    private final class Given implements Check.Answer {
-        private final String name;
-        private final int a;
-        private final int b;
-        private final int c;
-
-        Given(String name, int a, int b, int c) {
-            this.name = name;
-            this.a = a;
-            this.b = b;
-            this.c = c;
+    private int drawPaid(int number, int drawn) {
+        if (number < 0 || number >= 12 || random.nextInt(100) < odd) {
+            return drawn;
         }
-
-        @Override
-        public long get() {
-            switch (name) {
-                case "setPrices": return x.setPrices(a, b, c);
-                case "setDelay": return x.setDelay(a, b);
-                case "setTrunk": return x.setTrunk(a, b, c);
-                case "port": return x.port(a, b);
-                case "sell": return x.sell(a, b);
-                case "bond": return x.bond(a, b);
-                case "pay": return x.pay(a, b);
-                case "judge": return x.judge(a);
-                case "call": return x.call(a, b);
-                case "hangUp": return x.hangUp(a);
-                case "pass": return x.pass(a);
-                case "second": return x.second();
-                case "isDear": return x.isDear() ? 1 : 0;
-                case "carrierOf": return x.carrierOf(a);
-                case "carrierThen": return x.carrierThen(a, b);
-                case "ownerOf": return x.ownerOf(a);
-                case "believed": return x.believed(a, b);
-                case "debt": return x.debt(a);
-                case "debtAnew": return x.debtAnew(a);
-                case "bondOf": return x.bondOf(a);
-                case "isBarred": return x.isBarred(a) ? 1 : 0;
-                case "callOf": return x.callOf(a);
-                case "free": return x.free(a, b);
-                case "route": return x.route(a, b);
-                case "calls": return x.calls();
-                case "lost": return x.lost();
-                case "state": return x.state(a);
-                case "trunks": return x.trunks(a);
-                case "carrierAt": return x.carrierAt(a, b);
-                case "seconds": return x.seconds(a);
-                case "charged": return x.charged(a);
-                case "chargedAnew": return x.chargedAnew(a);
-                case "coins": return x.coins(a);
-                case "earned": return x.earned(a);
-                case "earnedAnew": return x.earnedAnew(a);
-                case "spent": return x.spent(a);
-                case "spentAnew": return x.spentAnew(a);
-                case "losses": return x.losses(a);
-                default: throw new UnsupportedOperationException(name);
-            }
-        }
-    }
-
-    private final class Due implements Check.Answer {
-        private final String name;
-        private final int a;
-        private final int b;
-        private final int c;
-
-        Due(String name, int a, int b, int c) {
-            this.name = name;
-            this.a = a;
-            this.b = b;
-            this.c = c;
-        }
-
-        @Override
-        public long get() {
-            switch (name) {
-                case "setPrices": return model.setPrices(a, b, c);
-                case "setDelay": return model.setDelay(a, b);
-                case "setTrunk": return model.setTrunk(a, b, c);
-                case "port": return model.port(a, b);
-                case "sell": return model.sell(a, b);
-                case "bond": return model.bond(a, b);
-                case "pay": return model.pay(a, b);
-                case "judge": return model.judge(a);
-                case "call": return model.call(a, b);
-                case "hangUp": return model.hangUp(a);
-                case "pass": return model.pass(a);
-                case "second": return model.second();
-                case "isDear": return model.isDear();
-                case "carrierOf": return model.carrierOf(a);
-                case "carrierThen": return model.carrierThen(a, b);
-                case "ownerOf": return model.ownerOf(a);
-                case "believed": return model.believed(a, b);
-                case "debt":
-                case "debtAnew": return debtOf(a);
-                case "bondOf": return model.bondOf(a);
-                case "isBarred": return model.isBarred(a);
-                case "callOf": return model.callOf(a);
-                case "free": return model.free(a, b);
-                case "route": return model.route(a, b);
-                case "calls": return model.calls();
-                case "lost": return model.lost();
-                case "state": return model.stateOf(a);
-                case "trunks": return model.trunks(a);
-                case "carrierAt": return model.carrierAt(a, b);
-                case "seconds": return model.seconds(a);
-                case "charged":
-                case "chargedAnew": return model.charged(a);
-                case "coins": return model.coins(a);
-                case "earned":
-                case "earnedAnew": return model.earned(a);
-                case "spent":
-                case "spentAnew": return model.spent(a);
-                case "losses": return model.losses(a);
-                default: throw new UnsupportedOperationException(name);
-            }
-        }
-
-        private long debtOf(int number) {
-            model.carrierOf(number);
-            return model.debt(number);
-        }
+        int debt = model.debt(number);
+        return random.nextBoolean() ? debt : 1 + random.nextInt(debt + 1);
     }
 }

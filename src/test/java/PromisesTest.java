@@ -10,7 +10,7 @@ final class PromisesTest {
     private static final int[] NO_NUMBER = {-1, 12, LEAST, MOST};
 
     private static final Check check = new Check("PromisesTest");
-    private static CarriedNumbers x = new CarriedNumbers();
+    private static Counted x = new Counted();
 
     private PromisesTest() {
     }
@@ -54,7 +54,7 @@ final class PromisesTest {
     }
 
     private static void anew() {
-        x = new CarriedNumbers();
+        x = new Counted();
     }
 
     private static void same(String what, long want, long got) {
