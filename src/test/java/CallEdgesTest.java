@@ -22,6 +22,7 @@ final class CallEdgesTest extends Edges {
         callsThatWereMade();
         endedOnce();
         waysOf0To4Trunks();
+        waysBeginAtTheCaller();
         waysAndTheirLines();
         lostOnTheWay();
         lostByEachTrunkOfItsWay();
@@ -258,6 +259,20 @@ final class CallEdgesTest extends Edges {
         answers("but a way of one does", -1, closed, x -> x.route(0, 4));
     }
 
+    /** "It begins at the carrier of the caller's number" */
+    private void waysBeginAtTheCaller() {
+        for (int carrier = 1; carrier < 5; carrier++) {
+            int c = carrier;
+            Story ported = x -> x.port(0, c);
+            Story made = both(ported, x -> x.call(0, 6));
+            answers("ported in this second to " + c, c, made, x -> x.carrierAt(0, 0));
+            answers("its trunks from " + c, c == 1 ? 0 : 1, made, x -> x.trunks(0));
+            Story before = both(x -> x.call(0, 6), ported);
+            answers("ported after it was made", 0, before, x -> x.carrierAt(0, 0));
+            answers("ported after it was made, its line", 1, before, x -> x.free(0, 1));
+        }
+    }
+
     /** "If it comes there it takes a line of each trunk on its way, until it ends" */
     private void waysAndTheirLines() {
         for (int trunks = 0; trunks <= 4; trunks++) {
@@ -367,6 +382,17 @@ final class CallEdgesTest extends Edges {
         refuses("the next call's place", INDEX, FULL, x -> x.carrierAt(0, 1));
         answers("trunks of the first of sixty", 0, FULL, x -> x.trunks(0));
         answers("trunks of the last of sixty", 1, FULL, x -> x.trunks(59));
+        Story longest = both(CHAINS[4], x -> {
+            x.call(6, 5);
+            x.call(0, 1);
+            x.call(10, 8);
+        });
+        for (int place = 0; place < 5; place++) {
+            int p = place;
+            answers("the longest way between two short ones", p, longest, x -> x.carrierAt(1, p));
+        }
+        answers("the last place of the call before", 0, longest, x -> x.carrierAt(0, 1));
+        answers("the first place of the next call", 0, longest, x -> x.carrierAt(2, 0));
         Story carried = both(CHAINS[2], x -> {
             x.call(0, 1);
             x.port(1, 4);

@@ -26,6 +26,8 @@ final class CarrierEdgesTest extends Edges {
         linesAre0To5();
         linesThatCallsTake();
         linesLeft();
+        onlyThoseThatTakeOne();
+        lineByLine();
         freeLines();
     }
 
@@ -409,6 +411,52 @@ final class CarrierEdgesTest extends Edges {
         answers(what + ", paid by 1", paidBy1, after, x -> x.losses(1));
         answers(what + ", coins of 0", paidBy1 - paidBy0, after, x -> x.coins(0));
         answers(what + ", coins of 1", paidBy0 - paidBy1, after, x -> x.coins(1));
+    }
+
+    /** "of those that take one": not an ended one, nor one that shares a carrier alone. */
+    private void onlyThoseThatTakeOne() {
+        Story before = x -> {
+            x.call(0, 1);
+            x.call(5, 6);
+            x.hangUp(1);
+            x.call(10, 2);
+            x.call(6, 8);
+            x.call(7, 5);
+            x.call(3, 11);
+        };
+        int[] states = {2, 1, 0, 0, 0, 0};
+        for (int turn = 0; turn < 2; turn++) {
+            int from = turn;
+            Story after = both(before, x -> x.setTrunk(from, 1 - from, 0));
+            answers("one takes a line", 0, before, x -> x.setTrunk(from, 1 - from, 1));
+            answers("one too many", 1, before, x -> x.setTrunk(from, 1 - from, 0));
+            answers("none free", 0, after, x -> x.free(0, 1));
+            answers("lost", 1, after, x -> x.lost());
+            answers("paid once", 5, after, x -> x.losses(1));
+            answers("paid to the first", 5, after, x -> x.coins(0));
+            for (int i = 0; i < states.length; i++) {
+                int call = i;
+                answers("state of call " + i, states[i], after, x -> x.state(call));
+            }
+        }
+    }
+
+    private void lineByLine() {
+        Story before = taken(5);
+        for (int lines = 4; lines >= 0; lines--) {
+            int left = lines;
+            String what = "down to " + lines;
+            answers(what, 1, before, x -> x.setTrunk(0, 1, left));
+            before = both(before, x -> x.setTrunk(0, 1, left));
+            answers(what + ", the highest", 2, before, x -> x.state(left));
+            answers(what + ", lost", 5 - lines, before, x -> x.lost());
+            answers(what + ", paid", 5 * (5 - lines), before, x -> x.losses(0) + x.losses(1));
+            answers(what + ", none free", 0, before, x -> x.free(0, 1));
+            if (lines > 0) {
+                answers(what + ", the next", 0, before, x -> x.state(left - 1));
+            }
+        }
+        answers("up again, free", 5, both(before, x -> x.setTrunk(0, 1, 5)), x -> x.free(0, 1));
     }
 
     /** "0 for one and the same carrier" */
