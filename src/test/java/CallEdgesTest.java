@@ -216,18 +216,6 @@ final class CallEdgesTest extends Edges {
         }
     }
 
-    /** Number 1 goes from 1 to the last of these, and a carrier knows of its own part alone. */
-    private static Story chain(int... carriers) {
-        return x -> {
-            for (int c = 0; c < 5; c++) {
-                x.setDelay(c, 5000);
-            }
-            for (int carrier : carriers) {
-                x.port(1, carrier);
-            }
-        };
-    }
-
     private static final Story[] CHAINS = {
         chain(0), chain(), chain(2), chain(2, 3), chain(2, 3, 4)};
 

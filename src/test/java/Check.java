@@ -41,6 +41,10 @@ final class Check {
         }
     }
 
+    int asked() {
+        return right + wrong;
+    }
+
     void fault(String what) {
         wrong++;
         if (wrong <= 20) {

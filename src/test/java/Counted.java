@@ -2,8 +2,16 @@
 final class Counted implements Exchange {
     private static final int MOST_CALLS = 512;
 
-    private final CarriedNumbers x = new CarriedNumbers();
+    private final CarriedNumbers x;
     private int made = 0;
+
+    Counted() {
+        this(new CarriedNumbers());
+    }
+
+    Counted(CarriedNumbers x) {
+        this.x = x;
+    }
 
     int left() {
         return MOST_CALLS - made;

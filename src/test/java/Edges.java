@@ -17,7 +17,11 @@ abstract class Edges extends Stories {
     private final Map<Story, List<String>> seen = new IdentityHashMap<>();
 
     Edges(String name) {
-        check = new Check(name);
+        this(new Check(name));
+    }
+
+    Edges(Check check) {
+        this.check = check;
     }
 
     /** Ints with no place among 0 to count - 1, from the nearest to the farthest. */

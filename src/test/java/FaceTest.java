@@ -3,8 +3,6 @@ import java.lang.reflect.Executable;
 import java.lang.reflect.Field;
 import java.lang.reflect.Method;
 import java.lang.reflect.Modifier;
-import java.nio.file.Files;
-import java.nio.file.Path;
 import java.util.StringJoiner;
 import java.util.TreeSet;
 
@@ -16,7 +14,7 @@ final class FaceTest {
     public static void main(String[] args) throws Exception {
         Check check = new Check("FaceTest");
         Class<?> face = CarriedNumbers.class;
-        TreeSet<String> due = documented(Path.of("..", "shared", "DOC.md"));
+        TreeSet<String> due = documented();
         check.same("the document's face has members", 1, due.size() > 30 ? 1 : 0);
         check.same("the face", String.join("\n", due), String.join("\n", found(face)));
         check.same("public and final", Modifier.PUBLIC | Modifier.FINAL, face.getModifiers());
@@ -29,11 +27,9 @@ final class FaceTest {
         check.end();
     }
 
-    private static TreeSet<String> documented(Path doc) throws Exception {
+    private static TreeSet<String> documented() throws Exception {
         TreeSet<String> lines = new TreeSet<>();
-        String text = Files.readString(doc);
-        int from = text.indexOf("```java");
-        for (String line : text.substring(from, text.indexOf("```\n", from + 7)).split("\n")) {
+        for (String line : Doc.face()) {
             if (line.startsWith("    public ")) {
                 lines.add(line.strip().replaceAll("(int|boolean) \\w+([,)])", "$1$2"));
             }

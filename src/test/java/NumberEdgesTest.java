@@ -32,25 +32,6 @@ final class NumberEdgesTest extends Edges {
         coinsBelow0();
     }
 
-    /** Number 0 owes that many coins to carrier 0, and is in no call. */
-    private static Story owes(int debt) {
-        return x -> {
-            x.setPrices(0, 1, 1);
-            x.call(0, 5);
-            passTo(x, debt);
-            x.hangUp(0);
-        };
-    }
-
-    /** Number 0 owes that many coins to carrier 0, and has that bond. */
-    private static Story owes(int debt, int bond) {
-        return both(debt > 0 ? owes(debt) : NEW, x -> {
-            if (bond > 0) {
-                x.bond(0, bond);
-            }
-        });
-    }
-
     /** "the number n is at the carrier n modulo 5, and owned by the person n modulo 6" */
     private void atFirst() {
         int[] carriers = {0, 1, 2, 3, 4, 0, 1, 2, 3, 4, 0, 1};

@@ -28,6 +28,37 @@ abstract class Stories {
         };
     }
 
+    /** Number 0 owes that many coins to carrier 0, and is in no call. */
+    static Story owes(int debt) {
+        return x -> {
+            x.setPrices(0, 1, 1);
+            x.call(0, 5);
+            passTo(x, debt);
+            x.hangUp(0);
+        };
+    }
+
+    /** Number 0 owes that many coins to carrier 0, and has that bond. */
+    static Story owes(int debt, int bond) {
+        return both(debt > 0 ? owes(debt) : NEW, x -> {
+            if (bond > 0) {
+                x.bond(0, bond);
+            }
+        });
+    }
+
+    /** Number 1 goes from 1 to the last of these, and a carrier knows of its own part alone. */
+    static Story chain(int... carriers) {
+        return x -> {
+            for (int c = 0; c < 5; c++) {
+                x.setDelay(c, 5000);
+            }
+            for (int carrier : carriers) {
+                x.port(1, carrier);
+            }
+        };
+    }
+
     /** Calls that go on, ended or were lost, news on the way, debts, a bond, and a bar of 0. */
     private static void busy(Exchange x) {
         x.setDelay(3, 7);
